@@ -826,10 +826,7 @@ public final class CaravanLogs {
         /** Answers the number of commands, or -100 minus the fault position. */
         int check() {
             goToStart();
-            for (int count = 1; count <= LONGEST_TEXT; count++) {
-                if (!takeCommand()) {
-                    return FAULT - at;
-                }
+            for (int count = 1; count <= LONGEST_TEXT && takeCommand(); count++) {
                 if (!takeSign(';')) {
                     return at == text.length() ? count : FAULT - at;
                 }

@@ -228,6 +228,8 @@ final class LinesAndTextsTest extends Checks {
         for (int what = 0; what < 3; what++) {
             due("nothing was refused", x.refusal(what), NOTHING);
         }
+        refused("a call ahead of all texts", x, x.write(2, 0), 2, 0);
+        due("no command", x.refusal(2), NOTHING);
         due("no what", x.refusal(-1), BAD);
         due("no what", x.refusal(3), BAD);
         read(x, "z0;d0");

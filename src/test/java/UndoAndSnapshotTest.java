@@ -2,6 +2,7 @@
 final class UndoAndSnapshotTest extends Checks {
     public static void main(String[] args) {
         undoOfEachCall();
+        undoOfTornPages();
         undoOfEight();
         undoAndChangesInTurn();
         whatIsNoChange();
@@ -11,12 +12,12 @@ final class UndoAndSnapshotTest extends Checks {
     }
 
     private static void undoOfEachCall() {
-        CaravanLogs x = after("d0;w0a;m0;w0b;z4");
-        x.undo();
-        due("nothing left", x.undo(), NOTHING);
+        CaravanLogs y = after("p1");
+        y.undo();
+        due("nothing left", y.undo(), NOTHING);
+        y.pass(2);
         String[] states = new String[8];
         int[] answers = new int[8];
-        CaravanLogs y = x;
         for (int i = 0; i < 7; i++) {
             states[i] = state(y);
             switch (i) {
@@ -29,15 +30,33 @@ final class UndoAndSnapshotTest extends Checks {
                 default: answers[i] = read(y, "d3;w3c;m3"); break;
             }
             due("a change " + i, answers[i] >= 0 ? 1 : 0, 1);
-            due("changes " + i, y.account(12), i + 1);
+            due("changes " + i, y.account(12), i + 2);
         }
         for (int i = 6; i >= 0; i--) {
-            due("undo " + i, y.undo(), i);
-            due("changes left", y.account(12), i);
+            due("undo " + i, y.undo(), i + 1);
+            due("changes left", y.account(12), i + 1);
             due("state " + i, state(y), states[i]);
         }
+        due("the last one", y.undo(), 0);
+        String empty = state(y);
         due("nothing left", y.undo(), NOTHING);
-        due("the state stays", state(y), states[0]);
+        due("the state stays", state(y), empty);
+    }
+
+    /** Pages that were torn and written over come back, with their terms and letters. */
+    private static void undoOfTornPages() {
+        CaravanLogs x = after("d0;w0a;m0;r02-;r03-;r04-;w0b;w0c;w0d;m0", "r14-;r12-;r13-;d4;w4c;m4;r14+");
+        String before = state(x);
+        x.save();
+        due("a page is settled", x.march(4), 2);
+        due("torn and written over", log(x, 1), "a1c2|");
+        due("undo", x.undo(), 2);
+        due("the pages are back", log(x, 1), "a1|b1c1d1");
+        due("the state", state(x), before);
+        x.march(4);
+        due("restore", x.restore(), 0);
+        due("the pages are back again", log(x, 1), "a1|b1c1d1");
+        due("the state", state(x), before);
     }
 
     private static void undoOfEight() {

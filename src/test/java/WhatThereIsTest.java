@@ -9,11 +9,13 @@ final class WhatThereIsTest extends Checks {
         reaching();
         matching();
         matchingAtEachLength();
+        matchingWhatWasTorn();
         captains();
         holding();
         lettersThatStay();
         wouldBe();
         captainsToCome();
+        captainsTooLate();
         ranks();
         end();
     }
@@ -136,6 +138,19 @@ final class WhatThereIsTest extends Checks {
         }
     }
 
+    /** Pages that were torn must not be compared any more. */
+    private static void matchingWhatWasTorn() {
+        CaravanLogs x = after("d0;w0a;m0;r02-;r03-;r04-;w0b;w0b;w0b;w0b;w0b;w0b;m0;r01-", "r14-;r12-;r13-;d4;w4c;m4;r04+;m4");
+        due("logs", logs(x), "a1c2| a1|b1b1b1b1b1b1 a1c2| a1c2| a1c2|");
+        due("matches", x.matches(0, 1), 1);
+        due("again", x.matchesAgain(0, 1), 1);
+        due("again, turned", x.matchesAgain(1, 0), 1);
+        x = after("d3;w3a;w3b;w3c;w3d;w3a;w3b;w3c;w3d;w3a;w3b;w3c;w3d;m3;m3");
+        due("two full logs", x.matches(3, 4), 12);
+        due("again", x.matchesAgain(3, 4), 12);
+        due("all have them", x.holders(4, 11), 5);
+    }
+
     private static void captains() {
         due("none", new CaravanLogs().captain(), NOTHING);
         due("the last camp", after("d4").captain(), 4);
@@ -211,6 +226,7 @@ final class WhatThereIsTest extends Checks {
         // Camp 4 is alone with a greater term than the captain.
         CaravanLogs y = after("d0;r04-;r14-;r24-;r34-;d4;d4");
         dueKept("a scout is ahead", y, y::captainIn, NOTHING);
+        due("the first camp is ahead", after("d4;r01-;r02-;r03-;r04-;d0;d0").captainIn(), NOTHING);
         y.sleep(4, 0);
         due("the scout is asleep", y.captainIn(), 0);
         y.sleep(4, 1);
@@ -219,6 +235,22 @@ final class WhatThereIsTest extends Checks {
         due("it is no captain after two hours", y.pass(2), 0);
         due("as told", y.pass(1), 1);
         due("the captain", camp(y, 0), "0C:4v0s0");
+    }
+
+    /** Two camps that hear of each other only by others drive their terms up for long. */
+    private static void captainsTooLate() {
+        CaravanLogs x = after("r02-;r13-;r10-;r40-;p6;r14-", "p4");
+        dueKept("in 61 hours", x, x::captainIn, NOTHING);
+        x.pass(1);
+        dueKept("in 60 hours", x, x::captainIn, 60);
+        x.pass(1);
+        due("in 59 hours", x.captainIn(), 59);
+        x.pass(30);
+        due("in 29 hours", x.captainIn(), 29);
+        x.pass(28);
+        due("in one hour", x.captainIn(), 1);
+        x.pass(1);
+        due("now", x.captainIn(), 0);
     }
 
     private static void ranks() {
