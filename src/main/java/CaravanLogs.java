@@ -241,7 +241,7 @@ public final class CaravanLogs {
         for (int i = 0; i < answer; i++) {
             commands.takeCommand();
             command = i;
-            int done = carryOut(commands);
+            int done = carryOutCommand();
             if (done < 0) {
                 now.copyFrom(before);
                 answer = done == REFUSED ? REFUSED : BAD;
@@ -412,15 +412,15 @@ public final class CaravanLogs {
         return now.captainsMade - madeBefore;
     }
 
-    private int carryOut(Commands read) {
-        switch (read.kind) {
-            case 'd': return bringDusk(read.first);
-            case 'w': return writePage(read.first, read.second);
-            case 'm': return sendCaptain(read.first);
-            case 'r': return turnRoad(read.first, read.second, read.third);
-            case 'z': return turnCamp(read.first, 0);
-            case 'k': return turnCamp(read.first, 1);
-            default: return passHours(read.first);
+    private int carryOutCommand() {
+        switch (commands.kind) {
+            case 'd': return bringDusk(commands.first);
+            case 'w': return writePage(commands.first, commands.second);
+            case 'm': return sendCaptain(commands.first);
+            case 'r': return turnRoad(commands.first, commands.second, commands.third);
+            case 'z': return turnCamp(commands.first, 0);
+            case 'k': return turnCamp(commands.first, 1);
+            default: return passHours(commands.first);
         }
     }
 
