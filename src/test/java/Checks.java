@@ -1,11 +1,19 @@
-import java.util.function.IntSupplier;
+import java.util.Collections;
+import java.util.function.Supplier;
+import java.util.function.ToIntFunction;
 
-/** What all tests need: to compare an answer with the one that is due, and to tell all that an object would answer. */
+/**
+ * What all tests need: to compare an answer with the one that is due, and to tell all that an object would answer.
+ * Nothing is promised of an object after its 512th call, so what looks at much makes its objects anew.
+ */
 class Checks {
     static final int NONE = -1;
     static final int BAD = -2;
     static final int REFUSED = -3;
     static final int NOTHING = -4;
+    static final int[] FAR_OUT = {Integer.MIN_VALUE, Integer.MAX_VALUE};
+
+    static final String NO_ROADS = "r01-;r02-;r03-;r04-;r12-;r13-;r14-;r23-;r24-;r34-";
 
     private static int wrong = 0;
     private static int looked = 0;
@@ -34,6 +42,10 @@ class Checks {
         return wrong != 0;
     }
 
+    static int lookedSoFar() {
+        return looked;
+    }
+
     /** Ends a test's main method. */
     static void end() {
         System.out.println(looked + " answers, " + wrong + " not as due");
@@ -48,11 +60,50 @@ class Checks {
         due(what + ", detail", x.refusal(1), detail);
     }
 
-    /** A call that fails, and with it all that must stay as it was. */
-    static void dueKept(String what, CaravanLogs x, IntSupplier call, int want) {
-        String before = everything(x);
-        due(what, call.getAsInt(), want);
-        due(what + ", all else", everything(x), before);
+    /** A call that must leave all as it was: the object is compared with a like one that never had the call. */
+    static void dueKept(String what, Supplier<CaravanLogs> make, ToIntFunction<CaravanLogs> call, int want) {
+        due(what, call.applyAsInt(make.get()), want);
+        Supplier<CaravanLogs> called = () -> {
+            CaravanLogs x = make.get();
+            call.applyAsInt(x);
+            return x;
+        };
+        dueAlike(what, called, make);
+        if (want != REFUSED) {
+            due(what + ", reasons", reasons(called.get()), reasons(make.get()));
+        }
+        due(what + ", text", textBehind(called.get()), textBehind(make.get()));
+    }
+
+    /** All but the text and the reasons: the state, the line, and what undo and restore would bring back. */
+    static void dueAlike(String what, Supplier<CaravanLogs> one, Supplier<CaravanLogs> other) {
+        due(what + ", state", state(one.get()), state(other.get()));
+        due(what + ", line", line(one.get()), line(other.get()));
+        for (int undos = 1; undos <= 9; undos++) {
+            due(what + ", undone " + undos, undone(one.get(), undos), undone(other.get(), undos));
+        }
+        due(what + ", restored", restored(one.get()), restored(other.get()));
+    }
+
+    static String undone(CaravanLogs x, int undos) {
+        StringBuilder answers = new StringBuilder();
+        for (int i = 0; i < undos; i++) {
+            answers.append(x.undo()).append(' ');
+        }
+        return answers + state(x);
+    }
+
+    static String restored(CaravanLogs x) {
+        return x.restore() + " " + state(x);
+    }
+
+    static String reasons(CaravanLogs x) {
+        return x.refusal(0) + " " + x.refusal(1) + " " + x.refusal(2);
+    }
+
+    /** The text can only be looked at by reading it. */
+    static String textBehind(CaravanLogs x) {
+        return x.account(11) + " " + x.read() + " " + state(x);
     }
 
     static CaravanLogs type(CaravanLogs x, String text) {
@@ -66,7 +117,7 @@ class Checks {
         return type(x, text).read();
     }
 
-    /** A new object on which a text of commands was read; what it holds can be undone as one change. */
+    /** A new object on which texts of commands were read; each of them can be undone as one change. */
     static CaravanLogs after(String... texts) {
         CaravanLogs x = new CaravanLogs();
         for (String text : texts) {
@@ -77,6 +128,11 @@ class Checks {
             due("reading " + text, read(x, text), commands);
         }
         return x;
+    }
+
+    /** A command some times, with ";" between them. */
+    static String times(int count, String command) {
+        return String.join(";", Collections.nCopies(count, command));
     }
 
     static String line(CaravanLogs x) {
@@ -107,7 +163,7 @@ class Checks {
         return log(x, 0) + " " + log(x, 1) + " " + log(x, 2) + " " + log(x, 3) + " " + log(x, 4);
     }
 
-    /** What changes can change, by the calls that only look; neither the line nor the text is touched. */
+    /** What changes can change, and how many can be undone, by calls that only look: at most some 220 of them. */
     static String state(CaravanLogs x) {
         StringBuilder all = new StringBuilder();
         for (int camp = 0; camp < 5; camp++) {
@@ -115,7 +171,8 @@ class Checks {
             for (int what = 0; what <= 8; what++) {
                 all.append(x.campOf(camp, what)).append(' ');
             }
-            for (int place = 0; x.pageOf(camp, place, 0) != NONE; place++) {
+            int pages = x.campOf(camp, 4);
+            for (int place = 0; place < pages; place++) {
                 all.append((char) ('a' + x.pageOf(camp, place, 1))).append(x.pageOf(camp, place, 0)).append(' ');
             }
             for (int other = 0; other < 5; other++) {
@@ -126,11 +183,11 @@ class Checks {
         for (int what = 0; what <= 10; what++) {
             all.append(' ').append(x.account(what));
         }
-        return all.toString();
+        return all.append(" undo ").append(x.account(12)).toString();
     }
 
-    /** What calls that fail must leave as it was: the state, the line, the text and what can be undone. */
-    static String everything(CaravanLogs x) {
-        return state(x) + " line " + line(x) + " text " + x.account(11) + " undo " + x.account(12);
+    static String stateButUndo(CaravanLogs x) {
+        String state = state(x);
+        return state.substring(0, state.indexOf(" undo "));
     }
 }

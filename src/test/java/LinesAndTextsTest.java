@@ -79,17 +79,17 @@ final class LinesAndTextsTest extends Checks {
 
     private static void appending() {
         CaravanLogs x = new CaravanLogs();
-        dueKept("below", x, () -> x.append(31), BAD);
-        dueKept("above", x, () -> x.append(127), BAD);
-        dueKept("far below", x, () -> x.append(-1), BAD);
-        dueKept("as a char it would do", x, () -> x.append(65536 + 'd'), BAD);
+        due("below", x.append(31), BAD);
+        due("above", x.append(127), BAD);
+        due("far below", x.append(-1), BAD);
+        due("as a char it would do", x.append(65536 + 'd'), BAD);
         due("the least", x.append(32), 1);
         due("the greatest", x.append(126), 2);
         for (int i = 3; i <= 70; i++) {
             due("append " + i, x.append('p'), i);
         }
         due("the text", x.account(11), 70);
-        dueKept("too long", x, () -> x.append('p'), BAD);
+        due("too long", x.append('p'), BAD);
         due("read empties it", x.read(), -100);
         due("the text", x.account(11), 0);
         due("append again", x.append('d'), 1);
@@ -104,40 +104,32 @@ final class LinesAndTextsTest extends Checks {
     }
 
     private static void commandsAsCalls() {
-        CaravanLogs x = new CaravanLogs();
-        CaravanLogs y = new CaravanLogs();
-        due("d", read(x, "d3"), 1);
-        y.dusk(3);
-        due("d, state", state(x), state(y));
-        due("w", read(x, "w3a;w3b;w3c;w3d"), 4);
-        for (int letter = 0; letter < 4; letter++) {
-            y.write(3, letter);
+        String[] texts = {"d3", "w3a;w3b;w3c;w3d", "r31-;r03-;r30+", "m3", "z3;z0", "p9", "k3", "p30;p12;p05"};
+        int[] commands = {1, 4, 3, 1, 2, 1, 1, 3};
+        for (int i = 0; i < texts.length; i++) {
+            CaravanLogs x = new CaravanLogs();
+            CaravanLogs y = new CaravanLogs();
+            for (int j = 0; j <= i; j++) {
+                due("reading " + texts[j], read(x, texts[j]), commands[j]);
+                sameAsCalls(y, j);
+            }
+            due("each text is one change", x.account(12), i + 1);
+            due("state behind " + texts[i], stateButUndo(x), stateButUndo(y));
         }
-        due("w, state", state(x), state(y));
-        due("r", read(x, "r31-;r03-;r30+"), 3);
-        y.road(3, 1, 0);
-        due("r, state", state(x), state(y));
-        due("m", read(x, "m3"), 1);
-        y.march(3);
-        due("m, state", state(x), state(y));
-        due("z", read(x, "z3;z0"), 2);
-        y.sleep(3, 0);
-        y.sleep(0, 0);
-        due("z, state", state(x), state(y));
-        due("p of one digit", read(x, "p9"), 1);
-        y.pass(9);
-        due("p, state", state(x), state(y));
-        due("k", read(x, "k3"), 1);
-        y.sleep(3, 1);
-        due("k, state", state(x), state(y));
-        due("p of two digits", read(x, "p30;p12;p05"), 3);
-        y.pass(30);
-        y.pass(12);
-        y.pass(5);
-        due("p again, state", state(x), state(y));
-        due("each text is one change", x.account(12), 8);
-        x.undo();
-        due("undone at once", x.account(10), 9);
+    }
+
+    /** The calls for the commands of one of the texts. */
+    private static void sameAsCalls(CaravanLogs y, int text) {
+        switch (text) {
+            case 0: y.dusk(3); break;
+            case 1: y.write(3, 0); y.write(3, 1); y.write(3, 2); y.write(3, 3); break;
+            case 2: y.road(3, 1, 0); y.road(0, 3, 0); y.road(3, 0, 1); break;
+            case 3: y.march(3); break;
+            case 4: y.sleep(3, 0); y.sleep(0, 0); break;
+            case 5: y.pass(9); break;
+            case 6: y.sleep(3, 1); break;
+            default: y.pass(30); y.pass(12); y.pass(5); break;
+        }
     }
 
     private static void faults() {
@@ -153,9 +145,9 @@ final class LinesAndTextsTest extends Checks {
         for (int i = 0; i < texts.length; i++) {
             CaravanLogs x = after("d4");
             x.write(0, 0);
-            String before = everything(x);
+            String before = state(x);
             due("fault of " + texts[i], read(x, texts[i]), -100 - at[i]);
-            due("all stays after " + texts[i], everything(x), before);
+            due("all stays after " + texts[i], state(x), before);
             due("the reason stays after " + texts[i], x.refusal(0), 2);
             due("its command stays after " + texts[i], x.refusal(2), NOTHING);
         }
@@ -164,14 +156,14 @@ final class LinesAndTextsTest extends Checks {
     private static void allOrNone() {
         CaravanLogs x = after("d0");
         x.describe(0);
-        String before = everything(x);
+        String before = state(x);
         due("the last one is refused", read(x, "w0a;m0;z4;r01-;p5;d2;w2b;d2"), REFUSED);
-        due("all stays", everything(x), before);
+        due("all stays", state(x), before);
         due("reason", x.refusal(0), 2);
         due("detail, as it was then: camp 1 asked in the hours, then camp 2", x.refusal(1), 3);
         due("command", x.refusal(2), 7);
         due("the first one is refused", read(x, "k3;w0a"), REFUSED);
-        due("all stays", everything(x), before);
+        due("all stays", state(x), before);
         due("reason", x.refusal(0), 5);
         due("detail", x.refusal(1), 1);
         due("command", x.refusal(2), 0);
@@ -201,9 +193,9 @@ final class LinesAndTextsTest extends Checks {
         for (String text : texts) {
             CaravanLogs x = after("d0");
             x.road(1, 1, 0);
-            String before = everything(x);
+            String before = state(x);
             due("reading " + text, read(x, text), BAD);
-            due("all stays after " + text, everything(x), before);
+            due("all stays after " + text, state(x), before);
             due("the reason stays after " + text, x.refusal(0), 4);
             due("its command stays after " + text, x.refusal(2), NOTHING);
         }

@@ -1,7 +1,12 @@
-/** All promises: long runs of calls, each answer compared with the model's. The runs are the same each time. */
+/**
+ * All promises: long runs of calls, each answer compared with the model's. The runs are the same each time.
+ * Each answer that is compared is one call, and no run has more calls than the document promises.
+ */
 final class RandomRunsTest extends Checks {
-    private static final int RUNS = 1500;
+    private static final int RUNS = 8000;
     private static final int CALLS = 512;
+    private static final int CALLS_OF_A_TEXT = 75;
+    private static final int CALLS_TO_LOOK_AT_ALL = 240;
 
     private static long seed = 1;
 
@@ -27,18 +32,24 @@ final class RandomRunsTest extends Checks {
         CaravanLogs x = new CaravanLogs();
         Model m = new Model();
         int style = run % 5;
-        for (int i = 0; i < CALLS; i++) {
-            String what = "run " + run + ", call " + i + ", ";
+        boolean isLookedAt = run % 2 == 0;
+        int first = lookedSoFar();
+        int calls = 0;
+        while (calls <= CALLS - CALLS_OF_A_TEXT - (isLookedAt ? CALLS_TO_LOOK_AT_ALL : 0)) {
+            String what = "run " + run + ", call " + calls + ", ";
             if (below(100) < 55) {
                 change(what, x, m, style);
             } else {
                 look(what, x, m);
             }
-            if (i % 16 == 0) {
-                lookAtAll(what, x, m);
-            }
+            calls = lookedSoFar() - first;
         }
-        lookAtAll("run " + run + ", at the end, ", x, m);
+        if (isLookedAt) {
+            lookAtAll("run " + run + ", at the end, ", x, m, run % 5);
+        }
+        if (lookedSoFar() - first > CALLS) {
+            due("run " + run + ", its calls", lookedSoFar() - first, CALLS);
+        }
     }
 
     private static void change(String what, CaravanLogs x, Model m, int style) {
@@ -96,6 +107,7 @@ final class RandomRunsTest extends Checks {
         if (below(12) == 0) {
             text.setLength(below(text.length() + 1));
         }
+        text.setLength(Math.min(text.length(), 71));
         for (int i = 0; i < text.length(); i++) {
             int code = text.charAt(i);
             due(what + "append " + code, x.append(code), m.append(code));
@@ -132,7 +144,7 @@ final class RandomRunsTest extends Checks {
         }
     }
 
-    private static void lookAtAll(String what, CaravanLogs x, Model m) {
+    private static void lookAtAll(String what, CaravanLogs x, Model m, int lineOf) {
         due(what + "isWell", x.isWell(), 1);
         due(what + "captainIn", x.captainIn(), m.captainIn());
         due(what + "share", x.share(), m.share());
@@ -151,9 +163,9 @@ final class RandomRunsTest extends Checks {
             for (int place = 0; place <= 12; place++) {
                 due(what + "holders " + camp + " " + place, x.holders(camp, place), m.holders(camp, place));
             }
-            dueLine(what + "describe " + camp, x, m, x.describe(camp), m.describe(camp));
-            dueLine(what + "show " + camp, x, m, x.show(camp), m.show(camp));
         }
+        dueLine(what + "describe " + lineOf, x, m, x.describe(lineOf), m.describe(lineOf));
+        dueLine(what + "show " + lineOf, x, m, x.show(lineOf), m.show(lineOf));
     }
 
     private static void dueLine(String what, CaravanLogs x, Model m, int got, int want) {

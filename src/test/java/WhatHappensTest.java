@@ -136,13 +136,13 @@ final class WhatHappensTest extends Checks {
 
     private static void duskErrors() {
         CaravanLogs x = after("z1;d0");
-        dueKept("dusk(-1)", x, () -> x.dusk(-1), NONE);
-        dueKept("dusk(5)", x, () -> x.dusk(5), NONE);
+        due("dusk(-1)", x.dusk(-1), NONE);
+        due("dusk(5)", x.dusk(5), NONE);
         due("nothing was refused yet", x.refusal(0), NOTHING);
-        dueKept("dusk at an asleep camp", x, () -> x.dusk(1), REFUSED);
+        due("dusk at an asleep camp", x.dusk(1), REFUSED);
         due("reason", x.refusal(0), 1);
         due("detail", x.refusal(1), 1);
-        dueKept("dusk at a captain", x, () -> x.dusk(0), REFUSED);
+        due("dusk at a captain", x.dusk(0), REFUSED);
         due("reason", x.refusal(0), 2);
         due("detail", x.refusal(1), 1);
         due("no command", x.refusal(2), NOTHING);
@@ -171,19 +171,19 @@ final class WhatHappensTest extends Checks {
 
     private static void writingErrors() {
         CaravanLogs x = after("d0;z1");
-        dueKept("write(5, 0)", x, () -> x.write(5, 0), NONE);
-        dueKept("write(-1, 0)", x, () -> x.write(-1, 0), NONE);
-        dueKept("write(0, 4)", x, () -> x.write(0, 4), NONE);
-        dueKept("write(0, -1)", x, () -> x.write(0, -1), NONE);
-        dueKept("no letter ahead of asleep", x, () -> x.write(1, 4), NONE);
-        dueKept("asleep ahead of no captain", x, () -> x.write(1, 0), REFUSED);
+        due("write(5, 0)", x.write(5, 0), NONE);
+        due("write(-1, 0)", x.write(-1, 0), NONE);
+        due("write(0, 4)", x.write(0, 4), NONE);
+        due("write(0, -1)", x.write(0, -1), NONE);
+        due("no letter ahead of asleep", x.write(1, 4), NONE);
+        due("asleep ahead of no captain", x.write(1, 0), REFUSED);
         due("reason", x.refusal(0), 1);
         due("detail", x.refusal(1), 1);
-        dueKept("no captain", x, () -> x.write(2, 0), REFUSED);
+        due("no captain", x.write(2, 0), REFUSED);
         due("reason", x.refusal(0), 2);
         due("detail", x.refusal(1), 1);
         read(x, "w0a;w0a;w0a;w0a;w0a;w0a;w0a;w0a;w0a;w0a;w0a;w0a;z3");
-        dueKept("full", x, () -> x.write(0, 0), REFUSED);
+        due("full", x.write(0, 0), REFUSED);
         due("reason", x.refusal(0), 3);
         due("detail", x.refusal(1), 12);
         read(x, "d4");
@@ -283,12 +283,12 @@ final class WhatHappensTest extends Checks {
 
     private static void marchErrors() {
         CaravanLogs x = after("d0;z1");
-        dueKept("march(-1)", x, () -> x.march(-1), NONE);
-        dueKept("march(5)", x, () -> x.march(5), NONE);
-        dueKept("asleep ahead of no captain", x, () -> x.march(1), REFUSED);
+        due("march(-1)", x.march(-1), NONE);
+        due("march(5)", x.march(5), NONE);
+        due("asleep ahead of no captain", x.march(1), REFUSED);
         due("reason", x.refusal(0), 1);
         due("detail", x.refusal(1), 1);
-        dueKept("no captain", x, () -> x.march(4), REFUSED);
+        due("no captain", x.march(4), REFUSED);
         due("reason", x.refusal(0), 2);
         due("detail", x.refusal(1), 1);
     }
@@ -301,13 +301,13 @@ final class WhatHappensTest extends Checks {
         due("another one", x.road(0, 4, 0), 8);
         due("open by the other end", x.road(1, 3, 1), 9);
         due("open again", x.reaches(3, 1), 1);
-        dueKept("no one camp", x, () -> x.road(5, 0, 0), NONE);
-        dueKept("no one camp", x, () -> x.road(-1, 0, 0), NONE);
-        dueKept("no other camp", x, () -> x.road(0, 5, 0), NONE);
-        dueKept("no other camp, ahead of a bad sign", x, () -> x.road(0, -1, 2), NONE);
-        dueKept("bad sign", x, () -> x.road(0, 1, 2), BAD);
-        dueKept("bad sign, ahead of one camp", x, () -> x.road(1, 1, -1), BAD);
-        dueKept("one camp, as if to close", x, () -> x.road(2, 2, 0), REFUSED);
+        due("no one camp", x.road(5, 0, 0), NONE);
+        due("no one camp", x.road(-1, 0, 0), NONE);
+        due("no other camp", x.road(0, 5, 0), NONE);
+        due("no other camp, ahead of a bad sign", x.road(0, -1, 2), NONE);
+        due("bad sign", x.road(0, 1, 2), BAD);
+        due("bad sign, ahead of one camp", x.road(1, 1, -1), BAD);
+        due("one camp, as if to close", x.road(2, 2, 0), REFUSED);
         due("reason", x.refusal(0), 4);
         due("detail", x.refusal(1), 2);
         refused("one camp, as if to open", x, x.road(3, 3, 1), 4, 3);
@@ -328,11 +328,11 @@ final class WhatHappensTest extends Checks {
         due("silence of who is asleep", camps(x), "0z:1v0s0 1z:1v0s0 2:1v0s3 3:1v0s3 4:1v0s3");
         due("awake", x.sleep(0, 1), 4);
         due("no captain now", camp(x, 0), "0:1v0s0");
-        dueKept("no camp", x, () -> x.sleep(5, 0), NONE);
-        dueKept("no camp ahead of a bad sign", x, () -> x.sleep(-1, 2), NONE);
-        dueKept("bad sign", x, () -> x.sleep(0, 2), BAD);
-        dueKept("bad sign", x, () -> x.sleep(0, -1), BAD);
-        dueKept("asleep already", x, () -> x.sleep(1, 0), REFUSED);
+        due("no camp", x.sleep(5, 0), NONE);
+        due("no camp ahead of a bad sign", x.sleep(-1, 2), NONE);
+        due("bad sign", x.sleep(0, 2), BAD);
+        due("bad sign", x.sleep(0, -1), BAD);
+        due("asleep already", x.sleep(1, 0), REFUSED);
         due("reason", x.refusal(0), 5);
         due("detail", x.refusal(1), 0);
         refused("awake already", x, x.sleep(0, 1), 5, 1);
@@ -345,9 +345,9 @@ final class WhatHappensTest extends Checks {
 
     private static void hours() {
         CaravanLogs x = new CaravanLogs();
-        dueKept("pass(0)", x, () -> x.pass(0), BAD);
-        dueKept("pass(-1)", x, () -> x.pass(-1), BAD);
-        dueKept("pass(31)", x, () -> x.pass(31), BAD);
+        due("pass(0)", x.pass(0), BAD);
+        due("pass(-1)", x.pass(-1), BAD);
+        due("pass(31)", x.pass(31), BAD);
         due("two hours", x.pass(2), 0);
         due("no dusk yet", x.account(4), 0);
         due("one hour", x.pass(1), 1);

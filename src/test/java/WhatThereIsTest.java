@@ -199,22 +199,21 @@ final class WhatThereIsTest extends Checks {
         CaravanLogs x = after("d0;w0a;m0;z1;r03-;r04-;w0b;m0");
         int[] votes = {NOTHING, NOTHING, 4, 2, 2};
         for (int camp = 0; camp < 5; camp++) {
-            int asked = camp;
-            dueKept("would " + camp, x, () -> x.would(asked), votes[camp]);
+            due("would " + camp, x.would(camp), votes[camp]);
         }
         due("would refuses nothing", x.refusal(0), NOTHING);
-        dueKept("no camp", x, () -> x.would(-1), NONE);
-        dueKept("no camp", x, () -> x.would(5), NONE);
+        due("no camp", x.would(-1), NONE);
+        due("no camp", x.would(5), NONE);
         CaravanLogs y = after("r04-;r14-;r24-;r34-;d4;d4;r34+");
-        dueKept("would lose", y, () -> y.would(3), 0);
-        dueKept("would win none", y, () -> y.would(4), 2);
-        dueKept("would win", y, () -> y.would(1), 4);
+        due("would lose", y.would(3), 0);
+        due("would win none", y.would(4), 2);
+        due("would win", y.would(1), 4);
         due("as dusk tells it", y.dusk(1), 4);
     }
 
     private static void captainsToCome() {
         CaravanLogs x = new CaravanLogs();
-        dueKept("a new object", x, x::captainIn, 3);
+        due("a new object", x.captainIn(), 3);
         due("one now", after("d3").captainIn(), 0);
         due("one of two now", after("d3;r03-;d0").captainIn(), 0);
         due("without camp 0", after("z0").captainIn(), 4);
@@ -225,7 +224,7 @@ final class WhatThereIsTest extends Checks {
         due("no roads", after("r01-;r02-;r03-;r04-;r12-;r13-;r14-;r23-;r24-;r34-").captainIn(), NOTHING);
         // Camp 4 is alone with a greater term than the captain.
         CaravanLogs y = after("d0;r04-;r14-;r24-;r34-;d4;d4");
-        dueKept("a scout is ahead", y, y::captainIn, NOTHING);
+        due("a scout is ahead", y.captainIn(), NOTHING);
         due("the first camp is ahead", after("d4;r01-;r02-;r03-;r04-;d0;d0").captainIn(), NOTHING);
         y.sleep(4, 0);
         due("the scout is asleep", y.captainIn(), 0);
@@ -240,9 +239,9 @@ final class WhatThereIsTest extends Checks {
     /** Two camps that hear of each other only by others drive their terms up for long. */
     private static void captainsTooLate() {
         CaravanLogs x = after("r02-;r13-;r10-;r40-;p6;r14-", "p4");
-        dueKept("in 61 hours", x, x::captainIn, NOTHING);
+        due("in 61 hours", x.captainIn(), NOTHING);
         x.pass(1);
-        dueKept("in 60 hours", x, x::captainIn, 60);
+        due("in 60 hours", x.captainIn(), 60);
         x.pass(1);
         due("in 59 hours", x.captainIn(), 59);
         x.pass(30);
