@@ -137,22 +137,24 @@ class Checks {
 
     static String line(CaravanLogs x) {
         StringBuilder line = new StringBuilder();
-        for (int i = 0; x.sign(i) != NONE; i++) {
-            line.append((char) x.sign(i));
+        for (int sign = x.sign(0); sign != NONE; sign = x.sign(line.length())) {
+            line.append((char) sign);
         }
         return line.toString();
     }
 
     static String camp(CaravanLogs x, int camp) {
-        int length = x.describe(camp);
-        due("length of the line about camp " + camp, length, line(x).length());
-        return line(x);
+        return lineOfLength("camp " + camp, x, x.describe(camp));
     }
 
     static String log(CaravanLogs x, int camp) {
-        int length = x.show(camp);
-        due("length of the line about log " + camp, length, line(x).length());
-        return line(x);
+        return lineOfLength("log " + camp, x, x.show(camp));
+    }
+
+    private static String lineOfLength(String what, CaravanLogs x, int length) {
+        String line = line(x);
+        due("length of the line about " + what, length, line.length());
+        return line;
     }
 
     static String camps(CaravanLogs x) {
