@@ -3,6 +3,7 @@ final class UndoAndSnapshotTest extends Checks {
     public static void main(String[] args) {
         undoOfEachCall();
         undoOfTornPages();
+        undoOfTwelveTornPages();
         undoOfEight();
         atMostEight();
         eachKindIsUndoneAsTheNinth();
@@ -21,7 +22,7 @@ final class UndoAndSnapshotTest extends Checks {
         end();
     }
 
-    /** A new object with the first ones of seven changes, one of each kind. */
+    /** A new object with the first ones of nine changes: one of each kind, and those that begin, again. */
     private static CaravanLogs changed(int changes) {
         CaravanLogs x = new CaravanLogs();
         int[] answers = new int[changes];
@@ -33,7 +34,9 @@ final class UndoAndSnapshotTest extends Checks {
                 case 3: answers[i] = x.road(0, 1, 0); break;
                 case 4: answers[i] = x.sleep(2, 0); break;
                 case 5: answers[i] = x.pass(3); break;
-                default: answers[i] = read(x, "d3;w3c;m3"); break;
+                case 6: answers[i] = read(x, "d3;w3c;m3"); break;
+                case 7: answers[i] = x.dusk(1); break;
+                default: answers[i] = x.write(1, 3); break;
             }
             due("a change " + i, answers[i] >= 0 ? 1 : 0, 1);
         }
@@ -41,14 +44,15 @@ final class UndoAndSnapshotTest extends Checks {
     }
 
     private static void undoOfEachCall() {
-        for (int changes = 0; changes <= 7; changes++) {
-            due("changes", changed(changes).account(12), changes);
-            for (int undos = 1; undos <= changes; undos++) {
+        for (int changes = 0; changes <= 9; changes++) {
+            int undoable = Math.min(changes, 8);
+            due("changes", changed(changes).account(12), undoable);
+            for (int undos = 1; undos <= undoable; undos++) {
                 CaravanLogs x = changed(changes);
                 for (int i = 1; i <= undos; i++) {
-                    due("undo", x.undo(), changes - i);
+                    due("undo", x.undo(), undoable - i);
                 }
-                due(undos + " of " + changes + " undone", state(x), state(changed(changes - undos)));
+                due(undos + " of " + changes + " undone", stateButUndo(x), stateButUndo(changed(changes - undos)));
             }
         }
         dueKept("nothing left to undo", CaravanLogs::new, CaravanLogs::undo, NOTHING);
@@ -76,6 +80,46 @@ final class UndoAndSnapshotTest extends Checks {
         y.march(4);
         y.restore();
         due("the state", state(y), state(x));
+    }
+
+    /** A march tears and writes over twelve pages of a camp: all of them come back, at each of the camps. */
+    private static void undoOfTwelveTornPages() {
+        for (int camp = 1; camp < 5; camp++) {
+            String before = stateButUndo(beforeTwelveTorn(camp));
+            due("undone at " + camp, stateButUndo(backFromTwelveTorn(camp, true)), before);
+            due("restored at " + camp, stateButUndo(backFromTwelveTorn(camp, false)), before);
+        }
+    }
+
+    /** Camps 0 and a second one have twelve pages b, a third one has twelve pages d of a greater term. */
+    private static CaravanLogs beforeTwelveTorn(int camp) {
+        int leader = camp == 1 ? 2 : 1;
+        CaravanLogs x = after("d0", times(12, "w0b"));
+        for (int other = 1; other < 5; other++) {
+            if (other != camp) {
+                x.road(0, other, 0);
+            }
+        }
+        x.march(0);
+        x.road(leader, camp, 0);
+        due("leads", x.dusk(leader), 3);
+        for (int i = 0; i < 12; i++) {
+            x.write(leader, 3);
+        }
+        x.road(leader, camp, 1);
+        x.road(leader, 0, 1);
+        return x;
+    }
+
+    private static CaravanLogs backFromTwelveTorn(int camp, boolean isByUndo) {
+        CaravanLogs x = beforeTwelveTorn(camp);
+        if (!isByUndo) {
+            x.save();
+        }
+        due("march", x.march(camp == 1 ? 2 : 1), 12);
+        due("torn", x.account(7), 24);
+        due("back", isByUndo ? x.undo() : x.restore(), isByUndo ? 7 : 0);
+        return x;
     }
 
     private static void undoOfEight() {
@@ -114,7 +158,7 @@ final class UndoAndSnapshotTest extends Checks {
 
     /** Eight changes behind it a change can't be undone any more; seven behind it, it can, of whatever kind it is. */
     private static void eachKindIsUndoneAsTheNinth() {
-        for (int changes = 1; changes <= 7; changes++) {
+        for (int changes = 1; changes <= 9; changes++) {
             for (int behind = 7; behind <= 8; behind++) {
                 CaravanLogs x = changed(changes);
                 for (int i = 0; i < behind; i++) {
@@ -247,8 +291,8 @@ final class UndoAndSnapshotTest extends Checks {
 
     /** "The snapshot contains what changes can change." */
     private static void snapshotOfEachKindOfChange() {
-        for (int saved = 0; saved <= 7; saved++) {
-            for (int later = 0; later <= 7; later++) {
+        for (int saved = 0; saved <= 9; saved++) {
+            for (int later = 0; later <= 4; later++) {
                 CaravanLogs x = changed(saved);
                 int hours = saved < 6 ? 0 : 3;
                 due("save", x.save(), hours);
